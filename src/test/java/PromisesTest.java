@@ -334,6 +334,10 @@ public final class PromisesTest {
         due("sowing: more than 1 there", narrow.by(0, 3), 0);
         due("sowing: move", narrow.move(0), 0);
         beans("sowing: all back", narrow, 5, 1);
+        PurseOfNineBowls lent = told("f1;l1;bn05;bn01;bn01;");
+        due("sowing: rest goes back in Lent, hands", lent.by(0, 0), 60);
+        due("sowing: rest goes back in Lent, sown", lent.by(0, 2), 60);
+        due("sowing: rest goes back in Lent, behind", lent.behind(0, 0), 5);
         // Each move from 0 gives the deaf bowl 19 and keeps 1, till the deaf one has 95.
         PurseOfNineBowls heap = told("f1;bn20;bd00;");
         for (int i = 1; i <= 5; i++) {
@@ -358,6 +362,7 @@ public final class PromisesTest {
         due("8: sown", x.by(0, 2), 5);
         due("8: taken", x.by(0, 3), 1);
         due("8: left", x.by(0, 4), 3);
+        due("8: last, other than 0", x.by(1, 1), 4);
         due("9: behind, itself", x.behind(0, 0), 0);
         due("9: behind, next", x.behind(0, 1), 0);
         due("9: behind, on", x.behind(0, 4), 1);
@@ -481,6 +486,15 @@ public final class PromisesTest {
         due("15: nobody", x.back(3), -1);
         due("15: nobody below", x.back(-1), -1);
         beans("15: in mind alone", x, 2, 0, 5);
+        PurseOfNineBowls y = told("f1;bn05;bn01;");
+        y.move(1);
+        y.put(0, 5);
+        y.put(1, 1);
+        y.empties(0);
+        y.put(0, 7);
+        due("15: from now", y.back(0), 1);
+        y.put(0, 6);
+        due("16: from now", y.loop(0, 1), 1);
         due("15: nobody else", told("f1;bn05;bn01;").back(2), -1);
     }
 
@@ -522,7 +536,7 @@ public final class PromisesTest {
         empty("bo00;", 0, 0, -9);
         empty("bo01;", 0, -9, -9);
         empty("bo01;bo03;bo00;bo00;bo00;", 0, 1, 0);
-        // Each sowing from the shallow one and from the last makes it sound; the least counts.
+        // 0 makes 1 sound and so empties it, and 1 itself does; the least counts.
         empty("bo01;bo03;bo00;bo00;bo00;", 1, 1, 0);
         empty("f3;bq07;bq07;", 0, 5, 0);
         empty("f3;bq07;bq07;", 1, 5, 1);
@@ -531,6 +545,11 @@ public final class PromisesTest {
         empty("f1;bn03;bd09;bo03;bh01;bo03;", 1, 3, 4);
         empty("f1;bh04;bo02;", 0, -9, -9);
         PurseOfNineBowls x = told("bo01;bo03;");
+        x.put(0, 0);
+        x.put(1, 3);
+        due("17: some needed", x.toEmpty(1, 1), 1);
+        due("17: none needed", x.toEmpty(0, 1), -9);
+        x.put(0, 1);
         due("17: nobody", x.toEmpty(2, 2), -1);
         due("17: nobody below", x.toEmpty(-1, 0), -1);
         due("17: other", x.toEmpty(0, 2), -2);
@@ -623,6 +642,11 @@ public final class PromisesTest {
         due("21: one bowl", told("bo07;").fair(), 1);
         due("21: two", told("bo01;bo00;").fair(), 6);
         due("21: none", told("f5;bh03;bh01;").fair(), -9);
+        due("21: 9", told("f9;l1;bo00;bq03;bd02;bh03;bq01;bh02;bd01;bw03;").fair(), 9);
+        due("21: 10 is too many", told("f9;bw00;bo02;bo01;bd00;bo00;bo02;bq00;bd03;bo00;").fair(), -9);
+        PurseOfNineBowls now = told("f5;bh03;bh01;");
+        now.set(0, 4);
+        due("21: full as now", now.fair(), told("f4;bh00;bh00;").fair());
         String[] texts = {"f5;bh00;bo02;bn01;bo02;", "f1;bh09;bw00;bq01;bd01;", "f4;bq00;bw00;"};
         for (String text : texts) {
             PurseOfNineBowls x = told(text);
@@ -666,7 +690,11 @@ public final class PromisesTest {
         due("22: one too few", x.sounds(3), -3);
         told(x, 0, 3, 0);
         due("22: above 2", x.sounds(3), -3);
-        due("22: refusals", x.count(13) * 100 + x.count(14) * 10 + x.count(16), 322);
+        told(x, 3, 0, 0);
+        due("22: the first above 2", x.sounds(3), -3);
+        told(x, 0, 0, 9);
+        due("22: the last above 2", x.sounds(3), -3);
+        due("22: refusals", x.count(13) * 100 + x.count(14) * 10 + x.count(16), 522);
         PurseOfNineBowls two = told("bd00;bq00;");
         told(two, 2, 2);
         due("22: 20 in each", two.sounds(40), 1);
@@ -696,6 +724,10 @@ public final class PromisesTest {
         due("23: known ones aside", x.next(4), 0);
         told(x, 0, 1);
         due("23: none unknown", x.next(4), -9);
+        // 10 beans: bowl 0 is silent in 1 way and sounds in 10; bowl 1 in 2 and 9.
+        PurseOfNineBowls loud = told("f1;bo00;bw00;");
+        told(loud, 2, 2);
+        due("23: silence the rarer", loud.next(10), 1);
         PurseOfNineBowls y = told("bo00;bo00;bh00;");
         told(y, 2, 2, 0);
         due("23: of several the least", y.next(6), 0);
@@ -773,6 +805,9 @@ public final class PromisesTest {
         }
         beans("27: in mind alone", x, 1, 0);
         due("27: games go on with the seed", told("bo01;bo00;").lots(4, 7), 4);
+        for (int z = 0; z < 20; z++) {
+            due("27: twenty games, seed " + z, x.lots(20, z), takenByLots(20, z));
+        }
         PurseOfNineBowls empty = told("bo00;bo00;bo00;");
         due("27: nothing there", empty.lots(20, 5), 0);
         due("27: purses that are there", told("bo01;bo00;s0;").lots(20, 5), -20);
@@ -788,16 +823,25 @@ public final class PromisesTest {
         due("27: no bowls", new PurseOfNineBowls().lots(1, 0), 1000000003);
     }
 
-    /** Of (1,0): whoever's turn it is when bowl 0 is first drawn takes the bean; 1 if it is TURN's. */
     private static int takenByLot(int seed) {
+        return takenByLots(1, seed);
+    }
+
+    /** Of (1,0): whoever's turn it is when bowl 0 is first drawn takes the bean; 1 if it is TURN's. */
+    private static int takenByLots(int games, int seed) {
         long z = seed;
-        for (int i = 0; i < 20; i++) {
-            z = (int) (z * 1664525L + 1013904223L);
-            if ((z & 2147483647L) / 256 % 2 == 0) {
-                return i % 2 == 0 ? 1 : -1;
+        int together = 0;
+        for (int game = 0; game < games; game++) {
+            int taken = 0;
+            for (int i = 0; i < 20; i++) {
+                z = (int) (z * 1664525L + 1013904223L);
+                if (taken == 0 && (z & 2147483647L) / 256 % 2 == 0) {
+                    taken = i % 2 == 0 ? 1 : -1;
+                }
             }
+            together += taken;
         }
-        return 0;
+        return together;
     }
 
     // Promises 28, 29
