@@ -610,7 +610,10 @@ public final class PurseOfNineBowls {
 
         /** From how many beans on a bowl sounds; NONE if it never does. */
         int soundsFrom(int bowl) {
-            switch (kindOf(bowl)) {
+            if (!has(bowl)) {
+                return NONE;
+            }
+            switch (kinds[bowl]) {
                 case PLAIN: return fullness;
                 case SHALLOW:
                 case NARROW: return (fullness + 1) / 2;
@@ -637,12 +640,6 @@ public final class PurseOfNineBowls {
         }
 
         void makeMove(int bowl) {
-            sow(bowl);
-            turn = 1 - turn;
-            moves++;
-        }
-
-        private void sow(int bowl) {
             hands = 0;
             last = NONE;
             sown = 0;
@@ -654,6 +651,8 @@ public final class PurseOfNineBowls {
                 from = last;
             }
             taken = takeSingle() ? 1 : 0;
+            turn = 1 - turn;
+            moves++;
         }
 
         /** Sows all beans of a bowl: whether some bean of them was sown. */
@@ -742,12 +741,10 @@ public final class PurseOfNineBowls {
                 return FAULT_OF_FORM - stuck;
             }
             int statements = 0;
-            int start = 0;
-            while (start < held) {
+            for (int start = 0; start < held; start = behindStatement(start)) {
                 if (!apply(start, table)) {
                     return FAULT_OF_SENSE - start;
                 }
-                start = behindStatement(start);
                 statements++;
             }
             return statements;
