@@ -23,6 +23,7 @@ public final class PurseOfNineBowls {
     private static final int MOST_TOLD = 9;
     private static final int MOST_GAMES = 20;
     private static final int MOVES_OF_A_LOT = 20;
+    private static final int ALL_BUT_SIGN = 0x7FFFFFFF;
     // The document bounds the way into a loop but not the loop: the longest met in
     // 320 million rings told by lot took half a million moves.
     private static final int MOST_STEPS = 4000000;
@@ -503,7 +504,7 @@ public final class PurseOfNineBowls {
         int z = seed;
         for (int i = 0; i < MOVES_OF_A_LOT && trial.held > 0; i++) {
             z = z * 1664525 + 1013904223;
-            int bowl = (z & Integer.MAX_VALUE) / 256 % trial.held;
+            int bowl = (z & ALL_BUT_SIGN) / 256 % trial.held;
             if (trial.canMove(bowl)) {
                 trial.makeMove(bowl);
             } else {

@@ -19,7 +19,7 @@ public final class LanguageTest {
         + "price(int) sold(int) change() fair() sounds(int) next(int) played(int) row(int) judge() lots(int,int) "
         + "image() on() count(int)";
     private static final String[] FORBIDDEN = {"throw", "throws", "try", "catch", "synchronized", "assert", "->", "::",
-        "package", "protected", "finally", "System\\.(?!arraycopy)", "Thread", "Random", "Exact", "volatile", "native",
+        "package", "protected", "finally", "System\\.(?!arraycopy)", "Thread", "Random", "Exact", "(Integer|Long)\\.M[AI]", "volatile", "native",
         "hashCode", "toString", "import(?! java\\.util\\.Arrays;)", "@", "(?<!private )static (final )?\\w+(\\[\\])* \\w+ ="};
     private static int wrong = 0;
 
