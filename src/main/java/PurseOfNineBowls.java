@@ -741,11 +741,13 @@ public final class PurseOfNineBowls {
             if (stuck != NONE) {
                 return FAULT_OF_FORM - stuck;
             }
+            int start = 0;
             int statements = 0;
-            for (int start = 0; start < held; start = behindStatement(start)) {
+            while (start < held && statements < MOST_LETTERS) {
                 if (!apply(start, table)) {
                     return FAULT_OF_SENSE - start;
                 }
+                start = behindStatement(start);
                 statements++;
             }
             return statements;
@@ -753,35 +755,42 @@ public final class PurseOfNineBowls {
 
         /** The place of the first letter with which no game can go on; NONE if it is a game. */
         private int stuckAt() {
-            int at = 0;
-            do {
-                int head = at(at);
-                if (mostDigits(head) == 0) {
-                    return at;
+            int start = 0;
+            // An empty text lacks its first statement, so one is looked for in any text.
+            for (int i = 0; i == 0 || i < MOST_LETTERS && start < held; i++) {
+                int stuck = stuckIn(start);
+                if (stuck != NONE) {
+                    return stuck;
                 }
-                at++;
-                if (head == 'b') {
-                    if (kindFor(at(at)) == NONE) {
-                        return at;
-                    }
-                    at++;
-                }
-                int digits = digitsFrom(at, mostDigits(head));
-                at += digits;
-                if (digits < leastDigits(head) || at(at) != ';') {
-                    return at;
-                }
-                at++;
-            } while (at < held);
+                start = behindStatement(start);
+            }
             return NONE;
         }
 
-        private int at(int place) {
+        /** Where the statement that begins there breaks off; NONE if it is whole. */
+        private int stuckIn(int start) {
+            int head = letterAt(start);
+            if (mostDigits(head) == 0) {
+                return start;
+            }
+            int place = start + 1;
+            if (head == 'b') {
+                if (kindFor(letterAt(place)) == NONE) {
+                    return place;
+                }
+                place++;
+            }
+            int digits = digitsFrom(place, mostDigits(head));
+            place += digits;
+            return digits < leastDigits(head) || letterAt(place) != ';' ? place : NONE;
+        }
+
+        private int letterAt(int place) {
             return place >= 0 && place < held && place < MOST_LETTERS ? letters[place] : END;
         }
 
         private int digitAt(int place) {
-            int c = at(place);
+            int c = letterAt(place);
             return c >= '0' && c <= '9' ? c - '0' : NONE;
         }
 
@@ -795,7 +804,7 @@ public final class PurseOfNineBowls {
 
         private int behindStatement(int start) {
             int place = start;
-            while (place < held && at(place) != ';') {
+            while (place < held && letterAt(place) != ';') {
                 place++;
             }
             return place + 1;
@@ -834,7 +843,7 @@ public final class PurseOfNineBowls {
         private boolean apply(int start, Table table) {
             int one = digitAt(start + 1);
             int other = digitAt(start + 2);
-            switch (at(start)) {
+            switch (letterAt(start)) {
                 case 'b': return addBowl(start, table);
                 case 'f':
                     table.fullness = one;
@@ -854,7 +863,7 @@ public final class PurseOfNineBowls {
 
         private boolean addBowl(int start, Table table) {
             int v = 10 * digitAt(start + 2) + digitAt(start + 3);
-            return v <= MOST_PUT && table.addBowl(kindFor(at(start + 1)), v);
+            return v <= MOST_PUT && table.addBowl(kindFor(letterAt(start + 1)), v);
         }
 
         private boolean makeMoves(int first, Table table) {
